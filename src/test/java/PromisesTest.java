@@ -70,6 +70,9 @@ public final class PromisesTest {
         images();
         refusals();
         nothingChanges();
+        looksFar();
+        severalFree();
+        otherEdges();
         System.out.println(wrong == 0 ? "all promises answer as due" : wrong + " answers are not as due");
         if (wrong != 0) {
             System.exit(1);
@@ -1062,5 +1065,110 @@ public final class PromisesTest {
             }
             due(31, "hours", x.hours(11), y.hours(11));
         }
+    }
+
+    /** 500 HOURS on are looked at, neither 499 nor 501. */
+    private static void looksFar() {
+        // taken at 54, 108, .. one by one, said at 1 nine hours later: 63, 117, .. 549
+        ThunderIsThePost x = world("hill 0 0;hill 0 0;hill 0 0;storm 9 99 1 0 1 2 1 2 1");
+        for (int i = 0; i < 12; i++) {
+            x.letter(i, 0, 2, 99 - i);
+        }
+        put(x, 0, 2, 0, 1, 2, 3, 4, 5, 6, 7, 8, 9);
+        x.hours(48);
+        due(27, "501 hours on", x.firstHeard(9, 1), NONE);
+        due(28, "501 hours on", x.night(1, 0, 10), 9);
+        x.hours(1);
+        due(27, "500 hours on", x.firstHeard(9, 1), 549);
+        due(27, "500 hours on", x.firstHeard(9, 0), 1);
+        due(28, "500 hours on", x.night(1, 0, 10), NONE);
+        due(26, "500 hours on", x.loudest(500, 0), 1);
+        due(26, "499 hours on", x.loudest(499, 0), 1);
+        // they are at 0 for 7 hours of 42 and for 8 of 40: till 127, and then from 720 on
+        ThunderIsThePost y = world("hill 0 0;hill 0 0;hill 0 0;hill 0 0;hill 0 0;storm 7 9 1 0 1 2 1 2 1;storm 8 9 1 0 3 4 3 4");
+        y.hours(126);
+        due(29, "in the next hour", y.meet(0, 1), 127);
+        y.hours(93);
+        due(29, "501 hours on", y.meet(1, 0), NONE);
+        y.hours(1);
+        due(29, "500 hours on", y.meet(1, 0), 720);
+    }
+
+    /** Of several STORMS without which it is sooner, the soonest, and of these the first. */
+    private static void severalFree() {
+        ThunderIsThePost x = world("hill 0 0;hill 0 0;hill 0 0;hill 0 0",
+            "storm 1 99 1 3 0;storm 2 99 1 0 3;storm 2 99 1 1 0 3;letter 0 3 1 2;letter 1 3 1 3");
+        due(19, "with all", x.arrives(0), NONE);
+        due(24, "without 0 or 1 at 6", x.needs(0, 1), 0);
+        due(24, "without 2 never", x.needs(0, 0), 4);
+        ThunderIsThePost y = world("hill 0 0;hill 0 0;hill 0 0;hill 0 0",
+            "storm 1 99 1 1 2 0;storm 2 99 1 3 2;storm 2 99 1 2 0;letter 0 2 1 4;letter 1 2 0 4");
+        due(19, "with all", y.arrives(1), NONE);
+        due(24, "without 0 at 6, without 1 at 5", y.needs(1, 1), 1);
+    }
+
+    private static void otherEdges() {
+        ThunderIsThePost x = new ThunderIsThePost();
+        due(9, "a 9", x.hill(0, 9), 0);
+        due(26, "one hill", x.loudest(9, 0), 0);
+        due(26, "one hill", x.loudest(9, 1), 0);
+        due(16, "hills", tell(x, "hill 0 0;hill 0 0;storm 1 99 1 1 2;storm 1 99 1 2 0"), 4);
+        due(16, "word 0", tell(x, "letter 0 2 0 98"), 1);
+        due(14, "from", x.letterOf(0, 1), 2);
+        x.letter(1, 2, 0, 98);
+        x.hours(1);
+        due(14, "in storm 0", x.letterOf(0, 4), 100);
+        x.hours(1);
+        due(31, "storm 0 at 1", x.stormOf(0, 4), 1);
+        due(14, "in storm 1", x.letterOf(1, 4), 101);
+        due(31, "hours(1)", x.hours(1), 1);
+        // at 1 and 2 letter 0, at 0 letter 1
+        due(40, "heard at 0 counts", x.status(8), 3);
+        due(15, "heard at 0", x.heard(0, 0), 1);
+        x.image();
+        x.hours(1);
+        x.restore();
+        due(39, "from", x.letterOf(1, 1), 2);
+        due(15, "heard at 0", x.heard(0, 0), 1);
+        // a weight that goes ahead of 98
+        ThunderIsThePost y = world(THREE + ";storm 1 99 1 0 1 2;letter 9 0 2 98;letter 8 0 1 97");
+        due(22, "by 5", y.lightest(0, 2, 5), 99);
+        due(23, "not the first letter", y.was(55, 0, 1, 99, 1), 55);
+        due(24, "none is sooner", y.needs(1, 1), NONE);
+        // the draw itself is not below
+        drawn = 5;
+        int first = draw();
+        ThunderIsThePost z = world(THREE + ";storm 1 99 1 0 1 2");
+        z.seed(5);
+        z.dry(first);
+        due(34, "goes on", z.drought(1), 0);
+        z.seed(5);
+        z.dry(first + 1);
+        due(34, "stays", z.drought(1), 1);
+        due(34, "at", z.stormOf(0, 0), 1);
+        ThunderIsThePost k = world(KINDS);
+        due(36, "CAVE fades", k.act(3, 2, 9), 34 ^ 12);
+        trace(k, 12, 40, 11, 20, 10, 20, 10);
+        wordsOfAllHills();
+    }
+
+    /** An IMAGE has what was HEARD at the last HILLS, too; a path goes back by the letter's own hills. */
+    private static void wordsOfAllHills() {
+        ThunderIsThePost x = world("hill 0 0;hill 0 0;hill 0 0;hill 0 0;hill 0 0;hill 0 0;hill 5 1;hill 2 7");
+        tell(x, "storm 1 99 9 6 0 7 6 5;letter 123 0 5 9;letter 456 0 5 8;hour 2");
+        due(15, "heard", x.heard(7, 0) * 1000 + x.heard(7, 1), 12045);
+        x.image();
+        x.hours(7);
+        due(15, "heard later", x.heard(6, 1), 5);
+        x.restore();
+        due(39, "heard", x.heard(7, 0) * 1000 + x.heard(7, 1), 12045);
+        due(39, "heard", x.heard(7, NONE), 2);
+        x.hours(1);
+        due(15, "as from there", x.heard(6, 0) * 10 + x.heard(6, 1), 25);
+        ThunderIsThePost y = world("hill 0 0;hill 2 0;hill 0 0;hill 2 0;storm 1 99 1 2 0 1 2 0 3;letter 5 0 2 99;letter 7 0 3 98");
+        // behind letter 0: taken at 4, by 3, 2, 0 to 1; behind both: taken at 7, by 1, 2, 0 to 3
+        due(23, "shorter twice", y.was(8, 0, 1, 99, 0), 100);
+        due(23, "shorter twice", y.was(8, 0, 3, 50, 1), 800);
+        due(23, "its own hills", y.was(8, 2, 1, 1, 0), 10);
     }
 }
