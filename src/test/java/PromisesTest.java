@@ -73,6 +73,7 @@ public final class PromisesTest {
         looksFar();
         severalFree();
         otherEdges();
+        allFull();
         System.out.println(wrong == 0 ? "all promises answer as due" : wrong + " answers are not as due");
         if (wrong != 0) {
             System.exit(1);
@@ -227,6 +228,8 @@ public final class PromisesTest {
         due(10, "room 0", x.storm(0, 2, 1, 1, 0), -6);
         due(10, "room 10", x.storm(0, 2, 1, 1, 10), -6);
         due(10, "last as the first", x.storm(0, 3, 1, 1, 1), -6);
+        put(x, 1, 2, 1, 2, 1);
+        due(10, "last as the first", x.storm(1, 3, 1, 1, 1), -6);
         put(x, 1, 2, 1, 1, 2);
         due(10, "two alike", x.storm(1, 3, 1, 1, 1), -6);
         put(x, 1, 2, 1, 8);
@@ -1170,5 +1173,46 @@ public final class PromisesTest {
         due(23, "shorter twice", y.was(8, 0, 1, 99, 0), 100);
         due(23, "shorter twice", y.was(8, 0, 3, 50, 1), 800);
         due(23, "its own hills", y.was(8, 2, 1, 1, 0), 10);
+    }
+
+    /** As much of all as there may be. */
+    private static void allFull() {
+        ThunderIsThePost x = new ThunderIsThePost();
+        for (int i = 0; i < 8; i++) {
+            x.hill(i == 0 ? 3 : 0, 9);
+        }
+        put(x, 0, 0, 0, 1, 2, 3, 4, 5);
+        for (int i = 0; i < 4; i++) {
+            due(10, "storm", x.storm(0, 6, 1, 99, 9), i);
+        }
+        for (int i = 0; i < 12; i++) {
+            due(11, "letter", x.letter(i, 0, 7, 1 + i), i);
+        }
+        due(25, "reach", x.reach(5, 99), 63);
+        due(26, "loudest", x.loudest(500, 0), 0);
+        due(26, "pile", x.loudest(500, 1), 0);
+        due(24, "needs", x.needs(11, 0), 15);
+        due(30, "postage", x.postage(), 500 * 78);
+        due(31, "hours", x.hours(6), 0);
+        due(13, "the nine heaviest", x.stormOf(0, 4), 0xff8);
+        due(13, "the rest", x.stormOf(1, 4), 7);
+        due(31, "hours", x.hours(6), 0);
+        due(15, "eight kept", x.heard(0, NONE), 8);
+        due(15, "the lightest of the rest by storm 1", x.heard(0, 7), 0);
+        due(40, "heard ever", x.status(8), 12 * (5 + 11));
+        due(39, "image and back", x.image() * 10 + x.restore(), 88);
+        StringBuilder many = new StringBuilder();
+        for (int i = 0; i < 21; i++) {
+            many.append("hour 1;");
+        }
+        due(16, "of 160", tell(x, many + "hour 1;hour 1"), 23);
+        due(16, "hour", x.status(5), 35);
+        String[] ends = {"hour 001;hour", "hour 0001;hou", "hour 01;hour ", "hour 01;hill0", "hour 1;hour 0", "hour 01;burn;", "hour 0001; 00"};
+        int[] want = {160, 160, 160, 155, 159, 159, 157};
+        for (int i = 0; i < ends.length; i++) {
+            due(16, "of 160, " + ends[i], tell(x, many + ends[i]), -6);
+            due(17, "of 160, " + ends[i], x.fault(), want[i]);
+        }
+        due(16, "hour", x.status(5), 35);
     }
 }
