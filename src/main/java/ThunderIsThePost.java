@@ -80,10 +80,10 @@ public final class ThunderIsThePost {
     /** Skies to try out what would come: what is asked changes nothing of the true one. */
     private final Sky guess = new Sky();
     private final Sky waiting = new Sky();
-    private final Reader reader = new Reader(shelves);
+    private final Reader reader = new Reader();
     private final Acts acts = new Acts();
     private final FirstEar firstEar = new FirstEar();
-    private final NightEar nightEar = new NightEar(shelves);
+    private final NightEar nightEar = new NightEar();
     private final PathEar pathEar = new PathEar();
     private final int[] way = new int[MOST_WAY];
     private final int[] refused = new int[REFUSALS + 1];
@@ -198,9 +198,7 @@ public final class ThunderIsThePost {
         if (now.storms.isFull()) {
             return refuse(NO_ROOM);
         }
-        for (int i = 0; i < n; i++) {
-            way[i] = shelves.number(s, i);
-        }
+        shelves.copyNumbers(s, n, way);
         return now.storms.add(way, n, pace, force, room);
     }
 
@@ -336,8 +334,8 @@ public final class ThunderIsThePost {
             return refuse(refusal);
         }
         // The text is told over a guess, which becomes the truth only if no FAULT is met.
-        guess.become(now);
-        reader.open(s, guess);
+        shelves.copyNumbers(s, shelves.length[s], reader.text);
+        reader.open(shelves.length[s], now);
         int items = 0;
         do {
             reader.readItem();
@@ -347,7 +345,7 @@ public final class ThunderIsThePost {
         if (latestFault != NONE) {
             return refuse(WRONG);
         }
-        now.become(guess);
+        now.become(reader.told);
         return items;
     }
 
@@ -530,7 +528,8 @@ public final class ThunderIsThePost {
             return refuseLower(refusal);
         }
         guess.become(now);
-        nightEar.judge(hill, s, n);
+        shelves.copyNumbers(s, n, nightEar.told);
+        nightEar.judge(hill, n);
         guess.ear = nightEar;
         for (int i = 0; i < FAR && nightEar.listens(); i++) {
             guess.tick();
@@ -784,6 +783,12 @@ public final class ThunderIsThePost {
         /** Wherever a ROW tells something, its lowest 32 bits count. */
         int number(int s, int i) {
             return (int) cells[s][i];
+        }
+
+        void copyNumbers(int s, int n, int[] target) {
+            for (int i = 0; i < n && i < target.length; i++) {
+                target[i] = number(s, i);
+            }
         }
 
         void dropHillsFrom(int hillCount) {
@@ -1221,19 +1226,13 @@ public final class ThunderIsThePost {
     /** Judges a told NIGHT: how many of its WORDS were HEARD as told. */
     private static final class NightEar extends Ear {
         int matched;
-        private final Shelves shelves;
-        private int shelf;
+        final int[] told = new int[MOST_NIGHT];
         private int length;
         private int place;
         private boolean broken;
 
-        NightEar(Shelves shelves) {
-            this.shelves = shelves;
-        }
-
-        void judge(int hill, int s, int n) {
+        void judge(int hill, int n) {
             place = hill;
-            shelf = s;
             length = n;
             matched = 0;
             broken = false;
@@ -1248,7 +1247,7 @@ public final class ThunderIsThePost {
                 return;
             }
             for (int i = 0; i < times && listens(); i++) {
-                if (shelves.number(shelf, matched) == word) {
+                if (told[matched] == word) {
                     matched++;
                 } else {
                     broken = true;
@@ -1313,25 +1312,20 @@ public final class ThunderIsThePost {
         private static final int WORDS = 5;
 
         int fault = NONE;
-        private final Shelves shelves;
+        final int[] text = new int[MOST_ELEMENTS];
+        final Sky told = new Sky();
         private final int[] way = new int[MOST_WAY];
-        private int shelf;
         private int length;
         private int place;
         /** The place of the first digit of the NUMBER read last. */
         private int firstDigit;
-        private Sky sky;
 
-        Reader(Shelves shelves) {
-            this.shelves = shelves;
-        }
-
-        void open(int s, Sky over) {
-            shelf = s;
-            length = shelves.length[s];
+        /** The text has been put in ahead; it is told over all there is. */
+        void open(int n, Sky over) {
+            length = n;
             place = 0;
             fault = NONE;
-            sky = over;
+            told.become(over);
         }
 
         /** Whether one more ITEM is to come. */
@@ -1409,7 +1403,7 @@ public final class ThunderIsThePost {
         private int countSame(String word) {
             int same = 0;
             while (same < word.length() && place + same < length
-                    && shelves.number(shelf, place + same) == word.charAt(same)) {
+                    && text[place + same] == word.charAt(same)) {
                 same++;
             }
             return same;
@@ -1418,23 +1412,22 @@ public final class ThunderIsThePost {
         private boolean hasRoomFor(int word) {
             switch (word) {
                 case HILL_WORD:
-                    return !sky.hills.isFull();
+                    return !told.hills.isFull();
                 case STORM_WORD:
-                    return !sky.storms.isFull();
+                    return !told.storms.isFull();
                 case LETTER_WORD:
-                    return !sky.letters.isFull();
+                    return !told.letters.isFull();
                 default:
                     return true;
             }
         }
 
         private boolean stands(int sign) {
-            return place < length && shelves.number(shelf, place) == sign;
+            return place < length && text[place] == sign;
         }
 
         private boolean digitStands() {
-            return place < length
-                && shelves.number(shelf, place) >= '0' && shelves.number(shelf, place) <= '9';
+            return place < length && text[place] >= '0' && text[place] <= '9';
         }
 
         /** A blank and a NUMBER; NONE behind a FAULT. */
@@ -1450,7 +1443,7 @@ public final class ThunderIsThePost {
             firstDigit = place;
             int value = 0;
             for (int i = 0; i < MOST_DIGITS && digitStands(); i++) {
-                value = value * 10 + shelves.number(shelf, place) - '0';
+                value = value * 10 + text[place] - '0';
                 place++;
             }
             if (place == firstDigit || value < least || value > most) {
@@ -1461,14 +1454,14 @@ public final class ThunderIsThePost {
         }
 
         private int readHillNumber() {
-            return readNumber(0, sky.hills.count - 1);
+            return readNumber(0, told.hills.count - 1);
         }
 
         private void readHill() {
             int kind = readNumber(HILL, ROOF);
             int grade = readNumber(0, MOST_GRADE);
             if (fault == NONE) {
-                sky.hills.add(kind, grade);
+                told.hills.add(kind, grade);
             }
         }
 
@@ -1478,7 +1471,7 @@ public final class ThunderIsThePost {
             int room = readNumber(1, MOST_CARRIED);
             int n = readWay();
             if (fault == NONE) {
-                sky.storms.add(way, n, pace, force, room);
+                told.storms.add(way, n, pace, force, room);
             }
         }
 
@@ -1510,21 +1503,21 @@ public final class ThunderIsThePost {
             }
             int weight = readNumber(1, MOST_WEIGHT);
             if (fault == NONE) {
-                sky.addLetter(word, from, to, weight);
+                told.addLetter(word, from, to, weight);
             }
         }
 
         private void readHour() {
             int n = readNumber(1, MOST_TEXT_HOURS);
             for (int i = 0; i < n; i++) {
-                sky.tick();
+                told.tick();
             }
         }
 
         private void readBurn() {
-            int letter = readNumber(0, sky.letters.count - 1);
+            int letter = readNumber(0, told.letters.count - 1);
             if (fault == NONE) {
-                sky.burnLetter(letter);
+                told.burnLetter(letter);
             }
         }
     }
