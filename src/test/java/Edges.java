@@ -1,5 +1,6 @@
 import java.util.ArrayList;
 import java.util.List;
+import java.util.function.Supplier;
 
 /**
  * Tests of sentences of the document, each a run of calls on a new object, a line each:
@@ -45,6 +46,34 @@ final class Edges {
     /** A sentence of a promise and the run that it asks for. */
     static void edge(int promise, String sentence, String... runs) {
         sentences++;
+        List<Line> lines = readAll(runs);
+        Report report = new Report(promise, sentence);
+        play(lines, report);
+        if (report.right && lines.stream().anyMatch(line -> line.refused)) {
+            compareRefused(lines, report);
+        }
+        if (!report.right) {
+            wrong++;
+        }
+    }
+
+    /** Behind two runs all that can be asked is the same, but for REFUSALS, SHELVES, the FAULT and THE TRACE. */
+    static void alike(int promise, String sentence, String run, String other) {
+        sentences++;
+        List<Line> lines = readAll(run);
+        List<Line> others = readAll(other);
+        Report report = new Report(promise, sentence);
+        play(lines, report);
+        play(others, report);
+        if (report.right) {
+            compareAll(() -> replay(lines, true), () -> replay(others, true), probes(replay(others, true)), report);
+        }
+        if (!report.right) {
+            wrong++;
+        }
+    }
+
+    private static List<Line> readAll(String... runs) {
         List<Line> lines = new ArrayList<>();
         for (String run : runs) {
             for (String line : run.split("\n")) {
@@ -53,16 +82,13 @@ final class Edges {
                 }
             }
         }
-        Report report = new Report(promise, sentence);
+        return lines;
+    }
+
+    private static void play(List<Line> lines, Report report) {
         Calls calls = new Calls();
         for (Line line : lines) {
             judge(calls, line, report);
-        }
-        if (report.right && lines.stream().anyMatch(line -> line.refused)) {
-            compare(lines, report);
-        }
-        if (!report.right) {
-            wrong++;
         }
     }
 
@@ -210,7 +236,7 @@ final class Edges {
         return calls;
     }
 
-    private static void compare(List<Line> lines, Report report) {
+    private static void compareRefused(List<Line> lines, Report report) {
         long[] refused = new long[REFUSALS + 1];
         boolean faulty = false;
         for (Line line : lines) {
@@ -225,38 +251,53 @@ final class Edges {
             long more = replay(lines, true).answer(call) - replay(lines, false).answer(call);
             report.due("how much more " + call, more, refused[i]);
         }
-        for (List<String> part : probes(replay(lines, false), faulty)) {
-            Calls one = replay(lines, true);
-            Calls other = replay(lines, false);
-            for (String call : part) {
-                long got = one.answer(call);
-                report.due("after what was refused " + call, got, other.answer(call));
-            }
-        }
-    }
-
-    /** All that can be asked of an object, in parts of which each is asked of a new one. */
-    private static List<List<String>> probes(Calls seen, boolean faulty) {
-        int hills = (int) seen.answer("status(0)");
-        int storms = (int) seen.answer("status(1)");
-        int letters = (int) seen.answer("status(2)");
-        List<List<String>> parts = new ArrayList<>();
-        parts.add(probesOfAll(faulty));
+        Calls seen = replay(lines, false);
+        List<List<String>> parts = probes(seen);
+        parts.add(probesOfSigns(faulty));
         for (int s = 0; s < SHELVES; s++) {
             if (seen.answer("holds(" + s + ")") >= 100) {
                 parts.add(probesOfRow(s));
             }
         }
+        compareAll(() -> replay(lines, true), () -> replay(lines, false), parts, report);
+    }
+
+    /** Each part is asked of two new objects. */
+    private static void compareAll(Supplier<Calls> ones, Supplier<Calls> others, List<List<String>> parts, Report report) {
+        for (List<String> part : parts) {
+            Calls one = ones.get();
+            Calls other = others.get();
+            for (String call : part) {
+                long got = one.answer(call);
+                report.due("behind all that " + call, got, other.answer(call));
+            }
+        }
+    }
+
+    /** What can be asked of an object's HILLS, STORMS and LETTERS and of what becomes of them. */
+    private static List<List<String>> probes(Calls seen) {
+        int hills = (int) seen.answer("status(0)");
+        int storms = (int) seen.answer("status(1)");
+        int letters = (int) seen.answer("status(2)");
+        List<List<String>> parts = new ArrayList<>();
+        parts.add(probesOfNumbers());
         parts.add(probesOfThings(seen, hills, storms, letters));
         parts.add(probesOfLater(storms, letters));
         return parts;
     }
 
-    private static List<String> probesOfAll(boolean faulty) {
+    private static List<String> probesOfNumbers() {
         List<String> part = new ArrayList<>();
-        for (int i = 0; i < 10; i++) {
+        for (int i = 0; i < 9; i++) {
             part.add("status(" + i + ")");
         }
+        return part;
+    }
+
+    /** THE TRACE, what SHELVES hold, and the FAULT, if it may not have changed. */
+    private static List<String> probesOfSigns(boolean faulty) {
+        List<String> part = new ArrayList<>();
+        part.add("status(9)");
         for (int i = 0; i < 20; i++) {
             part.add("trace(" + i + ")");
         }

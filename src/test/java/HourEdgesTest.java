@@ -23,6 +23,8 @@ public final class HourEdgesTest {
         traces();
         images();
         restored();
+        allRestored();
+        asManyAtOnce();
         statuses();
         Edges.end("HourEdgesTest");
     }
@@ -384,6 +386,57 @@ public final class HourEdgesTest {
             "letter(71, 0, 1, 9)", "letter(72, 0, 1, 8)", "dry(100)", "seed(-5)", "image() = 2", "hours(2)", "dry(0)", "seed(5)",
             "restore() = 2", "heard(1, NONE) = 0", "status(8) = 0", "status(6) = 100", "status(7) = -5", "status(5) = 0",
             "hillOf(0, 2) = 3", "stormOf(0, 0) = 1");
+    }
+
+    /** As much of all as there may be, some of it gone by. */
+    private static final String FULL = """
+        hill(0, 9)
+        hill(6, 9)
+        hill(5, 9)
+        hill(4, 2)
+        hill(3, 9)
+        hill(2, 0)
+        hill(1, 0)
+        hill(3, 1)
+        put(0, 0: 7 0 1 2 3 4)
+        put(1, 0: 5 6)
+        storm(0, 6, 1, 99, 9)
+        storm(0, 5, 1, 60, 1)
+        storm(1, 2, 9, 99, 9)
+        storm(0, 6, 2, 1, 1)
+        letter(1, 0, 7, 99)
+        letter(10, 0, 7, 60)
+        letter(100, 0, 2, 1)
+        letter(1000, 1, 3, 90)
+        letter(9999, 1, 3, 91)
+        letter(0, 7, 6, 50)
+        letter(5, 7, 1, 50)
+        letter(5, 3, 4, 50)
+        letter(123, 4, 5, 9)
+        letter(9, 5, 7, 9)
+        letter(9, 2, 0, 9)
+        letter(9, 6, 1, 98)
+        dry(33)
+        seed(-77)
+        hours(9)
+        burn(8)
+        """;
+
+    private static void allRestored() {
+        Edges.alike(39, "all is as THE IMAGE has it, of all as much as may be", FULL
+            + "image()\nhours(77)\nburn(11)\nburn(10)\ndry(1)\ndrought(50)\nseed(4)\nrestore() = 8\n", FULL + "image()\n");
+        Edges.alike(39, "all is as THE IMAGE has it, once more", FULL
+            + "image()\nhours(77)\nrestore() = 8\nhours(500)\nrestore() = 8\n", FULL + "image()\n");
+        Edges.alike(38, "what comes behind it changes no IMAGE", FULL + "image()\nhours(40)\n", FULL + "image()\nhours(39)\nhours(1)\n");
+        Edges.alike(39, "HILLS, STORMS, LETTERS told later are gone, new ones begin anew", PLAIN + "image()\nput(0, 0: 1 0 2)\n"
+            + "storm(0, 3, 1, 9, 9)\nletter(5, 0, 2, 9)\nhours(7)\nrestore() = 3\nstorm(0, 3, 1, 9, 9) = 0\nletter(6, 0, 2, 9) = 0\n",
+            PLAIN + "image()\nput(0, 0: 1 0 2)\nstorm(0, 3, 1, 9, 9) = 0\nletter(6, 0, 2, 9) = 0\n");
+    }
+
+    private static void asManyAtOnce() {
+        Edges.alike(31, "n HOURS: 60 at once or one by one", FULL + "hours(60)\n", FULL + "60 x hours(1)\n");
+        Edges.alike(34, "n DRY HOURS: 60 at once or one by one", FULL + "drought(60)\n", FULL + "60 x drought(1)\n");
+        Edges.alike(34, "DRY 0: as in truth, but for the draws", FULL + "dry(0)\ndrought(60) = 0\nseed(1)\n", FULL + "dry(0)\nhours(60)\nseed(1)\n");
     }
 
     private static void statuses() {

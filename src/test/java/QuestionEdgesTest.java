@@ -32,6 +32,7 @@ public final class QuestionEdgesTest {
         meets();
         postage();
         oneQuestionAfterTheOther();
+        lastOfAll();
         Edges.end("QuestionEdgesTest");
     }
 
@@ -180,6 +181,10 @@ public final class QuestionEdgesTest {
         Edges.edge(23, "as which a LETTER would arrive: by its own HILLS, not those of another", "hill(0, 0)", "hill(2, 0)", "hill(0, 0)",
             "put(0, 0: 1 2 0)", "storm(0, 3, 1, 9, 9)", "letter(5, 2, 0, 9)", "was(5, 0, 1, 9, 0) = 10", "was(5, 0, 1, 9, 1) = 50",
             "was(5, 2, 0, 9, 0) = 1");
+        // another LETTER goes to and fro between 0 and the HOLLOW
+        Edges.edge(23, "as which a LETTER would arrive: what others become counts nothing", "hill(0, 0)", "hill(2, 0)",
+            "2 x hill(0, 0)", "put(0, 0: 1 0)", "put(1, 0: 3 2)", "storm(0, 2, 1, 9, 9)", "storm(1, 2, 1, 9, 9)", "letter(5, 0, 3, 9)",
+            "was(5, 2, 3, 9, 0) = 1", "was(5, 2, 3, 9, 1) = 5");
         Edges.edge(23, "at the HILL that it is from it isn't said", "hill(2, 0)", "2 x hill(0, 0)", "put(0, 0: 2 0 1)",
             "storm(0, 3, 1, 9, 9)", "was(5, 0, 1, 9, 0) = 1", "was(5, 0, 1, 9, 1) = 5", "was(5, 1, 2, 9, 0) = 1", "was(5, 2, 1, 9, 0) = 10",
             "was(5, 1, 2, 9, 0) = 1");
@@ -343,6 +348,9 @@ public final class QuestionEdgesTest {
         // at HOUR 2 it is HEARD at 3 by storm 0 and at 1 by storm 1
         Edges.edge(27, "of several the first", "4 x hill(0, 0)", "put(0, 0: 2 0 3)", "put(1, 0: 3 0 1)", "storm(0, 3, 1, 99, 1)",
             "storm(1, 3, 1, 99, 1)", "letter(77, 0, 2, 9)", "letter(77, 0, 2, 5)", "firstHeard(77, 0) = 1", "firstHeard(77, 1) = 2");
+        // at HOUR 2 it is HEARD at 1 by storm 0, LETTER 1, and at 3 by storm 1, LETTER 0
+        Edges.edge(27, "of several the first", "4 x hill(0, 0)", "put(0, 0: 3 0 1)", "put(1, 0: 2 0 3)", "storm(0, 3, 1, 99, 1)",
+            "storm(1, 3, 1, 99, 1)", "letter(77, 0, 2, 5)", "letter(77, 0, 2, 9)", "firstHeard(77, 0) = 1", "firstHeard(77, 1) = 2");
         Edges.edge(27, "as it is there: shorter", "hill(0, 0)", "hill(2, 0)", "put(0, 0: 1 0)", "storm(0, 2, 1, 9, 9)",
             "letter(55, 0, 1, 9)", "firstHeard(55, 0) = NONE", "firstHeard(5, 0) = 1", "firstHeard(5, 1) = 2");
     }
@@ -420,7 +428,8 @@ public final class QuestionEdgesTest {
         Edges.edge(30, "499 for one that takes 499 HOURS", last, "hours(50)", "postage() = 22541");
         Edges.edge(30, "burnt ones cost no POSTAGE", PLAIN, "2 x letter(5, 0, 1, 9)", "burn(1)", "postage() = 4500", "burn(0)", "postage() = 0");
         Edges.edge(30, "of all LETTERS that aren't there yet: not those that ARRIVED", PLAIN, "put(0, 0: 1 0)", "storm(0, 2, 1, 99, 9)",
-            "letter(5, 0, 1, 7)", "letter(5, 0, 2, 1)", "hours(2) = 1", "postage() = 500");
+            "letter(5, 0, 1, 7)", "letter(5, 0, 2, 1)", "hours(2) = 1", "postage() = 500", "hours(3) = 0",
+            "postage() = 500");
     }
 
     /** What NEEDS thinks away and who listened is gone at the next question. */
@@ -438,5 +447,36 @@ public final class QuestionEdgesTest {
             Edges.edge(Integer.parseInt(last.substring(0, 2)), "nothing is changed, whatever was asked ahead", run.toString(), "status(5) = 0",
                 "status(2) = 1", "status(8) = 0");
         }
+    }
+
+    /**
+     * The twelfth LETTER goes with the fourth STORM by six HILLS, the last of them the eighth HILL, a HOLLOW:
+     * taken up at HOUR 6, said at 8, at the HOLLOW at 10, there at 12. The others stay where they are.
+     */
+    private static final String LAST = """
+        7 x hill(0, 0)
+        hill(2, 0) = 7
+        put(0, 0: 0 1)
+        3 x storm(0, 2, 1, 1, 1)
+        put(1, 0: 2 3 4 5 6 7)
+        storm(1, 6, 2, 40, 1) = 3
+        11 x letter(5, 0, 1, 50)
+        letter(9876, 5, 2, 40) = 11
+        put(2, 1: 987)
+        """;
+
+    private static void lastOfAll() {
+        Edges.edge(18, "where the last LETTER is, and its WORD", LAST, "behind(11, 5, 0) = 5", "behind(11, 6, 0) = 103",
+            "behind(11, 9, 1) = 9876", "behind(11, 10, 1) = 987", "behind(11, 12, 0) = 200");
+        Edges.edge(18, "where the last LETTER is, in the last STORM now", LAST, "hours(7)", "behind(11, 0, 0) = 103",
+            "behind(11, 2, 1) = 9876", "behind(11, 3, 1) = 987", "behind(11, 5, 0) = 200");
+        Edges.edge(19, "the last LETTER arrives", LAST, "arrives(11) = 12", "hours(7)", "arrives(11) = 12");
+        Edges.edge(24, "the last LETTER needs the last STORM", LAST, "needs(11, 0) = 8", "needs(11, 1) = NONE", "needs(10, 0) = 15");
+        Edges.edge(25, "reach from the last HILL by the last STORM", LAST, "reach(7, 40) = 252", "reach(7, 41) = 128");
+        Edges.edge(26, "at the last HILL", LAST, "hours(9)", "loudest(1, 0) = 7", "loudest(3, 0) = 2", "loudest(500, 1) = 0");
+        Edges.edge(27, "first heard at the last HILL", LAST, "firstHeard(987, 0) = 7", "firstHeard(987, 1) = 10");
+        Edges.edge(28, "a told NIGHT at the last HILL", LAST, "night(7, 2, 1) = NONE", "night(6, 2, 1) = 0");
+        Edges.edge(29, "the last STORM meets none", LAST, "meet(0, 3) = NONE", "meet(2, 3) = NONE", "meet(1, 2) = 1");
+        Edges.edge(30, "POSTAGE of the last LETTER", LAST, "postage() = 275480", "hours(12)", "postage() = 275000");
     }
 }

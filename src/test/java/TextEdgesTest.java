@@ -21,6 +21,7 @@ public final class TextEdgesTest {
         room();
         allOrNothing();
         told();
+        asByCalls();
         hoursInTruth();
         burnt();
         elements();
@@ -219,6 +220,31 @@ public final class TextEdgesTest {
             "letter 1 0 3 1;hill 0 0", 11);
         Edges.edge(16, "how many ITEMS", SOME, "tell \"hour 1\" = 1", "tell \"hour 1;hour 1\" = 2", "tell \"hour 1;hour 1;hour 1\" = 3",
             "status(5) = 6");
+    }
+
+    /** A text tells just what the calls would. */
+    private static void asByCalls() {
+        String text = "hill 0 1;hill 2 0;hill 5 9;storm 1 60 2 0 1 2;letter 9999 0 2 60;letter 12 1 0 61;hour 7;letter 5 2 1 9;burn 1;hour 2";
+        Edges.alike(16, "a text tells what the calls would", "tell \"" + text + "\" = 10\n", """
+            hill(0, 1)
+            hill(2, 0)
+            hill(5, 9)
+            put(0, 0: 0 1 2)
+            storm(0, 3, 1, 60, 2)
+            letter(9999, 0, 2, 60)
+            letter(12, 1, 0, 61)
+            hours(7)
+            letter(5, 2, 1, 9)
+            burn(1)
+            hours(2)
+            """);
+        Edges.alike(16, "a text tells the twelfth LETTER, the fourth STORM, the eighth HILL", "7 x hill(0, 0)\nput(0, 0: 0 1)\n"
+            + "3 x storm(0, 2, 1, 1, 1)\n11 x letter(5, 0, 1, 50)\n"
+            + "tell \"hill 2 9;storm 2 40 1 2 3 4 5 6 7;letter 9876 5 2 40;hour 7\" = 4\n", "7 x hill(0, 0)\nput(0, 0: 0 1)\n"
+            + "3 x storm(0, 2, 1, 1, 1)\n11 x letter(5, 0, 1, 50)\n"
+            + "hill(2, 9)\nput(1, 0: 2 3 4 5 6 7)\nstorm(1, 6, 2, 40, 1)\nletter(9876, 5, 2, 40)\nhours(7)\n");
+        Edges.alike(16, "numbers of a text may begin with 0: they are the same", SOME + "tell \"hill 0003 0009;letter 0012 0003 0001 0007;"
+            + "storm 01 009 0008 0003 02\" = 3\n", SOME + "tell \"hill 3 9;letter 12 3 1 7;storm 1 9 8 3 2\" = 3\n");
     }
 
     private static void hoursInTruth() {
