@@ -15,7 +15,6 @@ import java.util.regex.Matcher;
 import java.util.regex.Pattern;
 import java.util.stream.Collectors;
 import java.util.stream.Stream;
-import javax.tools.ToolProvider;
 
 /**
  * Compiles the calls that README.md shows, as they stand there, and compares what each answers with the
@@ -106,9 +105,9 @@ public final class ReadmeTest {
             Path file = directory.resolve(CLASS + ".java");
             Files.writeString(file, program);
             String path = System.getProperty("java.class.path");
-            int result = ToolProvider.getSystemJavaCompiler().run(null, null, null,
-                "-cp", path, "-d", directory.toString(), file.toString());
-            if (result != 0) {
+            Process javac = new ProcessBuilder("javac", "-cp", path, "-d", directory.toString(), file.toString())
+                .inheritIO().start();
+            if (javac.waitFor() != 0) {
                 fail("the calls of the page don't compile");
                 return;
             }
